@@ -175,7 +175,7 @@ public final class RunSorter {
         }
     }
 
-    // A run goes on over those that are alike, so that no merge has to put them in order.
+    // A run goes on over those that are alike, so that there are fewer runs to merge.
     private int findRuns(int order, int from, int to) {
         int runs = 0;
         for (int i = from; i < to; i++) {

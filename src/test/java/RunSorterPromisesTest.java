@@ -120,6 +120,7 @@ public final class RunSorterPromisesTest {
         sorted("4: rising", 0, numbers, MIN + ":1 -1:3 0:5 3:6 7:0 16:2 " + MAX + ":4");
         sorted("4: falling", 1, numbers, MAX + ":4 16:2 7:0 3:6 0:5 -1:3 " + MIN + ":1");
         sorted("4: lowest bits", 2, numbers, MIN + ":1 16:2 0:5 3:6 7:0 -1:3 " + MAX + ":4");
+        sorted("4: all lowest bits", 2, new int[] {15, 8, 23, 16, 7}, "16:3 23:2 7:4 8:1 15:0");
         sorted("4: without sign", 3, numbers, "0:5 3:6 7:0 16:2 " + MAX + ":4 " + MIN + ":1 -1:3");
     }
 
@@ -256,6 +257,7 @@ public final class RunSorterPromisesTest {
         upTo("9: falling, MIN", 1, Checks.holding(9, 4, 4, -1, MIN), MIN, 4, 5);
         upTo("9: lowest bits", 2, Checks.holding(16, 33, -15, 18, -1), 1, 1, 3);
         upTo("9: lowest bits of x", 2, Checks.holding(16, 33, -15, 18, -1), -14, 3, 4);
+        upTo("9: all lowest bits", 2, Checks.holding(0, 7, 8, 15), 24, 2, 3);
         upTo("9: without sign", 3, Checks.holding(0, MAX, MIN, MIN, -1), MIN, 2, 4);
         upTo("9: without sign, -1", 3, Checks.holding(0, MAX, MIN, MIN, -1), -1, 4, 5);
         upTo("9: nothing", 0, new RunSorter(), 0, 0, 0);
