@@ -1,22 +1,37 @@
+import java.util.ArrayList;
+import java.util.List;
 import java.util.Objects;
 import java.util.function.IntSupplier;
+import java.util.function.Supplier;
+import java.util.function.ToIntFunction;
 
 /** Counts what is not as due, prints it, and ends the program with exit code 1 if there was any. */
 final class Checks {
     static final Class<?> RANGE = IllegalArgumentException.class;
     static final Class<?> BOUNDS = IndexOutOfBoundsException.class;
+    static final int MIN = Integer.MIN_VALUE;
+    static final int MAX = Integer.MAX_VALUE;
 
+    // An object is promised for 512 calls, so a long row is read at its two ends alone.
+    private static final int READ_AT_EACH_END = 50;
+
+    private static String sentence = "";
     private static int made = 0;
     private static int wrong = 0;
 
     private Checks() {
     }
 
+    /** Names what the checks from here on hold the class to. */
+    static void sentence(String words) {
+        sentence = words + ": ";
+    }
+
     static void due(String what, Object got, Object want) {
         made++;
         if (!Objects.equals(got, want)) {
             wrong++;
-            System.out.println(what + " answered " + got + ", due is " + want);
+            System.out.println(sentence + what + " answered " + got + ", due is " + want);
         }
     }
 
@@ -29,24 +44,48 @@ final class Checks {
         }
     }
 
-    /** A call must throw just this, and leave the row as it was. */
-    static void refused(String what, RunSorter sorter, Class<?> want, IntSupplier call) {
-        int hash = sorter.hash();
+    /** A call must throw just this, and its object must go on like one that never got the call. */
+    static void refused(String what, Supplier<RunSorter> maker, Class<?> want, ToIntFunction<RunSorter> call) {
+        RunSorter called = maker.get();
+        due(what, outcome(() -> call.applyAsInt(called)), want);
+        due("what comes after " + what, goingOn(called), goingOn(maker.get()));
+    }
+
+    // Every answer that tells something of the state, by calls that change it more and more.
+    private static List<Object> goingOn(RunSorter sorter) {
+        List<Object> answers = new ArrayList<>();
         int size = size(sorter);
-        due(what, outcome(call), want);
-        due("hash after " + what, sorter.hash(), hash);
-        due("size after " + what, size(sorter), size);
+        answers.add(size);
+        answers.add(sorter.hash());
+        answers.add(row(sorter));
+        answers.add(outcome(() -> sorter.get(size)));
+        for (int order = 0; order < 4; order++) {
+            answers.add(sorter.upTo(order, 0, true));
+            answers.add(sorter.sort(order, 0, size));
+            answers.add(sorter.hash());
+        }
+        answers.add(sorter.turn(0, size));
+        answers.add(sorter.hash());
+        answers.add(outcome(() -> sorter.fill(7, 5, 1)));
+        answers.add(outcome(() -> sorter.fill(7, 5, 2000 - size)));
+        answers.add(sorter.hash());
+        answers.add(sorter.clear());
+        answers.add(sorter.scatter(9, 8, 3));
+        answers.add(row(sorter));
+        return answers;
     }
 
     static int size(RunSorter sorter) {
         return sorter.fill(0, 0, 0);
     }
 
-    /** The whole row, as "number:tag number:tag ..". For short rows: it takes two calls for each number. */
+    /** The row, as "number:tag number:tag ..", of a long one the two ends. */
     static String row(RunSorter sorter) {
         StringBuilder text = new StringBuilder();
         for (int i = 0, size = size(sorter); i < size; i++) {
-            text.append(i == 0 ? "" : " ").append(sorter.get(i)).append(':').append(sorter.tag(i));
+            if (i < READ_AT_EACH_END || i >= size - READ_AT_EACH_END) {
+                text.append(i == 0 ? "" : " ").append(sorter.get(i)).append(':').append(sorter.tag(i));
+            }
         }
         return text.toString();
     }
@@ -57,6 +96,13 @@ final class Checks {
         for (int number : numbers) {
             sorter.fill(number, 0, 1);
         }
+        return sorter;
+    }
+
+    /** A new object with so many numbers, not sorted in any of the orders if there are some. */
+    static RunSorter filled(int size) {
+        RunSorter sorter = new RunSorter();
+        sorter.fill(-1, 1234567891, size);
         return sorter;
     }
 

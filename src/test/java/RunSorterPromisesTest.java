@@ -1,27 +1,22 @@
-/** Every promise of the document by itself: ordinary inputs, the edges, and wrong inputs. */
+/** Every promise of the document by itself, by ordinary inputs. The Boundaries tests look at the edges and refusals. */
 public final class RunSorterPromisesTest {
-    private static final int MIN = Integer.MIN_VALUE;
-    private static final int MAX = Integer.MAX_VALUE;
+    private static final int MIN = Checks.MIN;
+    private static final int MAX = Checks.MAX;
 
     public static void main(String[] args) {
         promise1NewObject();
         promise2Fill();
-        promise2FillRefuses();
         promise3Scatter();
-        promise3ScatterRefuses();
         promise4SortOrders();
         promise4SortKeepsAlike();
         promise4SortParts();
         promise4SortLongRows();
-        promise4SortRefuses();
         promise5Get();
         promise6Tag();
         promise7Set();
         promise8Turn();
-        promise8TurnRefuses();
         promise9UpToOrders();
         promise9UpToUnsorted();
-        promise9UpToRefuses();
         promise10Clear();
         promise11Hash();
         Checks.end();
@@ -58,24 +53,6 @@ public final class RunSorterPromisesTest {
         Checks.due("2: tags behind a sorted row", Checks.row(moved), "1:2 2:1 3:0 8:3");
     }
 
-    private static void promise2FillRefuses() {
-        RunSorter sorter = new RunSorter();
-        Checks.refused("2: fill(0, 0, -1)", sorter, Checks.RANGE, () -> sorter.fill(0, 0, -1));
-        Checks.refused("2: fill(0, 0, 2001)", sorter, Checks.RANGE, () -> sorter.fill(0, 0, 2001));
-        Checks.refused("2: fill(0, 0, MIN)", sorter, Checks.RANGE, () -> sorter.fill(0, 0, MIN));
-        Checks.refused("2: fill(0, 0, MAX)", sorter, Checks.RANGE, () -> sorter.fill(0, 0, MAX));
-        Checks.due("2: fill(0, 1, 1999)", sorter.fill(0, 1, 1999), 1999);
-        Checks.refused("2: fill(0, 0, 2) with 1999", sorter, Checks.BOUNDS, () -> sorter.fill(0, 0, 2));
-        Checks.refused("2: fill(0, 0, 2000) with 1999", sorter, Checks.BOUNDS, () -> sorter.fill(0, 0, 2000));
-        Checks.refused("2: fill(0, 0, 2001) with 1999", sorter, Checks.RANGE, () -> sorter.fill(0, 0, 2001));
-        Checks.due("2: fill(-7, 1, 1) with 1999", sorter.fill(-7, 1, 1), 2000);
-        Checks.due("2: the last", sorter.get(1999), -7);
-        Checks.due("2: the last tag", sorter.tag(1999), 1999);
-        Checks.due("2: fill(1, 1, 0) with 2000", sorter.fill(1, 1, 0), 2000);
-        Checks.refused("2: fill(1, 1, 1) with 2000", sorter, Checks.BOUNDS, () -> sorter.fill(1, 1, 1));
-        Checks.due("2: fill(1, 1, 2000) into a new row", new RunSorter().fill(1, 1, 2000), 2000);
-    }
-
     // The seeds from 0 on are 1013904223 and 1196435762, whose upper halves are 0x3C6E and 0x4750.
     private static void promise3Scatter() {
         RunSorter sorter = new RunSorter();
@@ -97,22 +74,6 @@ public final class RunSorterPromisesTest {
         long first = ((1664525L * -1L + 1013904223L) & 0xFFFFFFFFL) >> 16;
         want.append(first % 32768).append(":3");
         Checks.due("3: row of scatter(-1, ..)", Checks.row(high), want.toString());
-    }
-
-    private static void promise3ScatterRefuses() {
-        RunSorter sorter = Checks.holding(4);
-        Checks.refused("3: bits 0", sorter, Checks.RANGE, () -> sorter.scatter(1, 0, 1));
-        Checks.refused("3: bits 17", sorter, Checks.RANGE, () -> sorter.scatter(1, 17, 1));
-        Checks.refused("3: bits 33", sorter, Checks.RANGE, () -> sorter.scatter(1, 33, 1));
-        Checks.refused("3: bits -1, n 0", sorter, Checks.RANGE, () -> sorter.scatter(1, -1, 0));
-        Checks.refused("3: n -1", sorter, Checks.RANGE, () -> sorter.scatter(1, 1, -1));
-        Checks.refused("3: n 2001", sorter, Checks.RANGE, () -> sorter.scatter(1, 16, 2001));
-        Checks.refused("3: n MAX", sorter, Checks.RANGE, () -> sorter.scatter(1, 16, MAX));
-        Checks.refused("3: n 2000 with 1", sorter, Checks.BOUNDS, () -> sorter.scatter(1, 16, 2000));
-        Checks.refused("3: bits 17, n 2000 with 1", sorter, Checks.RANGE, () -> sorter.scatter(1, 17, 2000));
-        Checks.due("3: n 1999 with 1", sorter.scatter(1, 16, 1999), 2000);
-        Checks.due("3: n 0 with 2000", sorter.scatter(1, 16, 0), 2000);
-        Checks.refused("3: n 1 with 2000", sorter, Checks.BOUNDS, () -> sorter.scatter(1, 16, 1));
     }
 
     private static void promise4SortOrders() {
@@ -170,30 +131,11 @@ public final class RunSorterPromisesTest {
         Checks.due("4: sorted as it was", sorter.hash(), before);
     }
 
-    private static void promise4SortRefuses() {
-        RunSorter sorter = Checks.holding(3, 2, 1);
-        Checks.refused("4: order -1", sorter, Checks.RANGE, () -> sorter.sort(-1, 0, 3));
-        Checks.refused("4: order 4", sorter, Checks.RANGE, () -> sorter.sort(4, 0, 3));
-        Checks.refused("4: order 4 of nothing", sorter, Checks.RANGE, () -> sorter.sort(4, 0, 0));
-        Checks.refused("4: from -1", sorter, Checks.RANGE, () -> sorter.sort(0, -1, 3));
-        Checks.refused("4: to 4", sorter, Checks.RANGE, () -> sorter.sort(0, 0, 4));
-        Checks.refused("4: from 4, to 4", sorter, Checks.RANGE, () -> sorter.sort(0, 4, 4));
-        Checks.refused("4: from 2, to 1", sorter, Checks.RANGE, () -> sorter.sort(0, 2, 1));
-        Checks.refused("4: from -1, to -1", sorter, Checks.RANGE, () -> sorter.sort(0, -1, -1));
-        Checks.refused("4: from MIN, to MAX", sorter, Checks.RANGE, () -> sorter.sort(0, MIN, MAX));
-        Checks.refused("4: from MAX, to MIN", sorter, Checks.RANGE, () -> sorter.sort(0, MAX, MIN));
-    }
-
     private static void promise5Get() {
         RunSorter sorter = Checks.holding(10, MIN, 30);
         Checks.due("5: get(0)", sorter.get(0), 10);
         Checks.due("5: get(1)", sorter.get(1), MIN);
         Checks.due("5: get(2)", sorter.get(2), 30);
-        Checks.refused("5: get(3)", sorter, Checks.BOUNDS, () -> sorter.get(3));
-        Checks.refused("5: get(-1)", sorter, Checks.BOUNDS, () -> sorter.get(-1));
-        Checks.refused("5: get(2000)", sorter, Checks.BOUNDS, () -> sorter.get(2000));
-        Checks.refused("5: get(MIN)", sorter, Checks.BOUNDS, () -> sorter.get(MIN));
-        Checks.refused("5: get(MAX)", sorter, Checks.BOUNDS, () -> sorter.get(MAX));
     }
 
     private static void promise6Tag() {
@@ -203,10 +145,6 @@ public final class RunSorterPromisesTest {
         Checks.due("6: tag(0) when sorted", sorter.tag(0), 2);
         Checks.due("6: tag(1) when sorted", sorter.tag(1), 1);
         Checks.due("6: tag(2) when sorted", sorter.tag(2), 0);
-        Checks.refused("6: tag(3)", sorter, Checks.BOUNDS, () -> sorter.tag(3));
-        Checks.refused("6: tag(-1)", sorter, Checks.BOUNDS, () -> sorter.tag(-1));
-        Checks.refused("6: tag(2000)", sorter, Checks.BOUNDS, () -> sorter.tag(2000));
-        Checks.refused("6: tag(MIN)", sorter, Checks.BOUNDS, () -> sorter.tag(MIN));
     }
 
     private static void promise7Set() {
@@ -216,10 +154,6 @@ public final class RunSorterPromisesTest {
         Checks.due("7: set(0, MAX)", sorter.set(0, MAX), -5);
         Checks.due("7: set(2, 1)", sorter.set(2, 1), 30);
         Checks.due("7: row", Checks.row(sorter), MAX + ":2 20:1 1:0");
-        Checks.refused("7: set(3, 1)", sorter, Checks.BOUNDS, () -> sorter.set(3, 1));
-        Checks.refused("7: set(-1, 1)", sorter, Checks.BOUNDS, () -> sorter.set(-1, 1));
-        Checks.refused("7: set(2000, 1)", sorter, Checks.BOUNDS, () -> sorter.set(2000, 1));
-        Checks.refused("7: set(MIN, 1)", sorter, Checks.BOUNDS, () -> sorter.set(MIN, 1));
     }
 
     private static void promise8Turn() {
@@ -235,17 +169,6 @@ public final class RunSorterPromisesTest {
         Checks.due("8: turn(0, 0)", sorter.turn(0, 0), 0);
         Checks.due("8: nothing turned", Checks.row(sorter), "1:0 5:4 2:1 3:2 4:3");
         Checks.due("8: turn(0, 0) of nothing", new RunSorter().turn(0, 0), 0);
-    }
-
-    private static void promise8TurnRefuses() {
-        RunSorter sorter = Checks.holding(3, 2, 1);
-        Checks.refused("8: from -1", sorter, Checks.RANGE, () -> sorter.turn(-1, 3));
-        Checks.refused("8: to 4", sorter, Checks.RANGE, () -> sorter.turn(0, 4));
-        Checks.refused("8: from 4, to 4", sorter, Checks.RANGE, () -> sorter.turn(4, 4));
-        Checks.refused("8: from 2, to 1", sorter, Checks.RANGE, () -> sorter.turn(2, 1));
-        Checks.refused("8: from -1, to -1", sorter, Checks.RANGE, () -> sorter.turn(-1, -1));
-        Checks.refused("8: from MIN, to MAX", sorter, Checks.RANGE, () -> sorter.turn(MIN, MAX));
-        Checks.refused("8: from MAX, to MIN", sorter, Checks.RANGE, () -> sorter.turn(MAX, MIN));
     }
 
     private static void promise9UpToOrders() {
@@ -275,14 +198,6 @@ public final class RunSorterPromisesTest {
         upTo("9: one between is behind", 0, Checks.holding(1, 9, 2, 3, 4, 5, 6), 5, 1, 1);
         upTo("9: not sorted before it", 0, Checks.holding(3, 1, 2, 5, 4, 9, 1), 5, 3, 5);
         upTo("9: falling", 1, Checks.holding(5, 9, 6, 1, 9, 9), 5, 0, 3);
-    }
-
-    private static void promise9UpToRefuses() {
-        RunSorter sorter = Checks.holding(1, 2);
-        Checks.refused("9: order -1", sorter, Checks.RANGE, () -> sorter.upTo(-1, 0, true));
-        Checks.refused("9: order 4", sorter, Checks.RANGE, () -> sorter.upTo(4, 0, false));
-        Checks.refused("9: order MIN", sorter, Checks.RANGE, () -> sorter.upTo(MIN, 0, true));
-        Checks.due("9: order 4 of nothing", Checks.outcome(() -> new RunSorter().upTo(4, 0, true)), Checks.RANGE);
     }
 
     private static void promise10Clear() {
