@@ -27,7 +27,15 @@ public final class RunSorterFaceTest {
         int modifiers = RunSorter.class.getModifiers();
         Checks.due("public", Modifier.isPublic(modifiers), true);
         Checks.due("final", Modifier.isFinal(modifiers), true);
+        Checks.due("the class above it", RunSorter.class.getSuperclass(), Object.class);
+        Checks.due("interfaces", RunSorter.class.getInterfaces().length, 0);
         Checks.due("face", face(), new TreeSet<>(FACE));
+        Checks.due("private methods with a public one's name", privateNamesakes(), Set.of());
+        for (Class<?> inside : RunSorter.class.getDeclaredClasses()) {
+            boolean hidden = !Modifier.isPublic(inside.getModifiers()) && !Modifier.isProtected(inside.getModifiers());
+            Checks.due(inside + " is private or package-visible", hidden, true);
+            Checks.due(inside + " is static", Modifier.isStatic(inside.getModifiers()), true);
+        }
         for (Field field : RunSorter.class.getDeclaredFields()) {
             Checks.due(field + " is private", Modifier.isPrivate(field.getModifiers()), true);
             boolean shared = Modifier.isStatic(field.getModifiers()) && !Modifier.isFinal(field.getModifiers());
@@ -45,6 +53,19 @@ public final class RunSorterFaceTest {
             addUnlessPrivate(face, method.getReturnType().getSimpleName() + " " + method.getName(), method);
         }
         return face;
+    }
+
+    private static Set<String> privateNamesakes() {
+        Set<String> namesakes = names(true);
+        namesakes.retainAll(names(false));
+        return namesakes;
+    }
+
+    private static Set<String> names(boolean ofPrivate) {
+        return Arrays.stream(RunSorter.class.getDeclaredMethods())
+                .filter(method -> Modifier.isPrivate(method.getModifiers()) == ofPrivate)
+                .map(Method::getName)
+                .collect(Collectors.toCollection(TreeSet::new));
     }
 
     private static void addUnlessPrivate(Set<String> face, String name, Executable member) {
